@@ -915,7 +915,8 @@ public final class WellRefuses {
     }
 
     int keptBy(int person, int n) {
-      behind(n);
+      ahead.copyFrom(real);
+      ahead.passDays(n, NOBODY);
       without.copyFrom(real);
       without.passDays(n, person);
       int set = 0;

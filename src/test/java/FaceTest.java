@@ -38,6 +38,7 @@ public final class FaceTest {
     }
     Due.isTrue("methods " + found, found.equals(due));
     for (Field field : face.getDeclaredFields()) Due.isTrue(field + " is private", isPrivate(field));
+    checkFields(face);
     Constructor<?>[] made = face.getDeclaredConstructors();
     Due.is("constructors", made.length, 1);
     Due.is("its modifiers", made[0].getModifiers(), Modifier.PUBLIC);
@@ -52,11 +53,17 @@ public final class FaceTest {
     for (Method method : inside.getDeclaredMethods()) {
       Due.isTrue(method + " has a name of its own", !names.contains(method.getName()));
     }
-    for (Field field : inside.getDeclaredFields()) {
-      if (Modifier.isStatic(field.getModifiers())) {
-        Due.isTrue(field + " is final", Modifier.isFinal(field.getModifiers()));
-      }
+    checkFields(inside);
+  }
+
+  private static void checkFields(Class<?> any) {
+    int own = 0;
+    for (Field field : any.getDeclaredFields()) {
+      boolean isStatic = Modifier.isStatic(field.getModifiers());
+      if (!isStatic) own++;
+      Due.isTrue(field + " is no static state", !isStatic || Modifier.isFinal(field.getModifiers()));
     }
+    Due.isTrue(any + " has some twenty fields", own <= 20);
   }
 
   private static boolean isPrivate(Member member) {
