@@ -62,6 +62,14 @@ public final class DaysTest {
     Due.is("1 OWES 2", y.owes(1, 2), 1);
     Due.is("2 OWES 1", y.owes(2, 1), 1);
 
+    WellRefuses most = new WellRefuses();
+    for (int p = 0; p < 3; p++) most.person(0, 0);
+    most.change(0, 1, 50);
+    most.change(2, 1, 20);
+    most.days(1);
+    Due.is("0 has most", most.owes(1, 0), 1);
+    Due.is("2 hasn't", most.owes(1, 2), 0);
+
     WellRefuses z = new WellRefuses();
     z.person(0, 0);
     z.person(0, 0);
@@ -148,6 +156,10 @@ public final class DaysTest {
     Due.is("loose up to 9999", x.loose(1), 0);
     Due.is("DAY is 9999", x.count(1), 9999);
     Due.is("no more", x.days(1), Due.STATE);
+    WellRefuses y = new WellRefuses();
+    for (int i = 0; i < 166; i++) y.days(60);
+    Due.is("days up to 9999", y.days(39), 0);
+    Due.is("DAY is 9999, too", y.count(1), 9999);
     Due.is("no loose more", x.loose(1), Due.STATE);
     Due.is("the greatest int", x.days(Integer.MAX_VALUE), Due.BEYOND);
     x.person(0, 1);
@@ -232,6 +244,12 @@ public final class DaysTest {
     Due.is("2 OWES 3", y.owes(2, 3), 7);
     Due.is("3 OWES 0", y.owes(3, 0), 7);
     Due.is("0 OWES 2", y.owes(0, 2), 0);
+    y.owe(1, 3, 1);
+    y.owe(3, 1, 2);
+    y.owe(0, 2, 1);
+    Due.is("two by 1, three by 1", y.strike(), 2);
+    Due.is("3 OWES 1", y.owes(3, 1), 1);
+    Due.is("3 OWES 0", y.owes(3, 0), 6);
     Due.is("a ring of four", ringOfFour(), 0);
   }
 

@@ -156,6 +156,9 @@ public final class ImagesTest {
     x.seed(-1000000001);
     int[] due = {3, 4, 1100, 110, 1 + 2 + 3 + 5 + 6 + 7, 5, 5, 2, 2, -1000000001};
     for (int what = 0; what < 10; what++) Due.is("count " + what, x.count(what), due[what]);
+    for (int p = 3; p < 8; p++) x.person(0, p);
+    int[] more = {8, 4, 1100, 110, 24, 0b10101101};
+    for (int what = 0; what < 6; what++) Due.is("of eight " + what, x.count(what), more[what]);
     int told = x.told(1);
     Due.is("10", x.count(10), Due.BEYOND);
     Due.is("-1", x.count(-1), Due.BEYOND);

@@ -53,6 +53,8 @@ public final class TextsTest {
     fault("(t", 2);
     fault("()", 1);
     fault("t)", 1);
+    fault("(()", 2);
+    fault("((+)", 2);
     fault("(t))", 3);
     fault("(t+d", 4);
     fault("(t(", 2);

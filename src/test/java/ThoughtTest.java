@@ -77,6 +77,11 @@ public final class ThoughtTest {
     Due.is("not by 60", y.first(61, 0), Due.NONE);
     y.change(0, 2, 1);
     Due.is("by 60", y.first(61, 0), 60);
+    WellRefuses z = new WellRefuses();
+    for (int p = 0; p < 8; p++) z.person(20, p < 7 ? 1 : 0);
+    Due.text(z, 1, "0");
+    Due.is("the last of eight", z.first(1, 1), 7);
+    Due.is("on the next day", z.first(1, 0), 1);
   }
 
   private static void rules() {
@@ -97,6 +102,7 @@ public final class ThoughtTest {
     Due.is("the least: MASK 1, VALUE 1", x.rules(0, 1), 17);
     // 8 rules by MASK 1 and any of 2, 4, 8: 5 with all bits as told gets 8; with bits off 4, 2, 1.
     Due.is("SEND parts 4 and 4", x.rules(0, 2), 1);
+    evenly();
     x.change(1, 0, 5);
     Due.is("alike, unlike given: none", x.rules(0, 0), 0);
     Due.is("no least", x.rules(0, 1), Due.NONE);
@@ -117,6 +123,52 @@ public final class ThoughtTest {
     Due.is("sheet -1", x.rules(-1, 0), Due.BEYOND);
     Due.is("what 3", x.rules(0, 3), Due.BEYOND);
     Due.is("what -1", x.rules(0, -1), Due.BEYOND);
+  }
+
+  /** By all that two were given or not, TRAITS by TRAITS, the RULES are counted here once more. */
+  private static void evenly() {
+    WellRefuses y = null;
+    boolean[] sent = new boolean[16];
+    for (int i = 0; i < 16 * 16 * 9; i++) {
+      int[] traits = {i % 16, i / 16 % 16};
+      int[] was = {i / 256 % 3, i / 768};
+      // No object is asked more than 512 calls.
+      if (i % 100 == 0) {
+        y = new WellRefuses();
+        y.person(0, 0);
+        y.person(0, 0);
+        y.sheet(0, 8, 2);
+      }
+      for (int p = 0; p < 2; p++) {
+        y.change(p, 0, traits[p]);
+        y.put(0, p, was[p]);
+      }
+      int due = -1;
+      int least = 1000;
+      for (int t = 0; t < 16; t++) {
+        int more = 0;
+        for (int mask = 0; mask < 16; mask++) {
+          for (int value = 0; value <= mask; value++) {
+            if ((value & mask) != value || unfit(traits, was, mask, value)) continue;
+            more += (t & mask) == value ? 1 : -1;
+          }
+        }
+        if (Math.abs(more) >= least) continue;
+        least = Math.abs(more);
+        due = t;
+      }
+      sent[due] = true;
+      Due.is("SEND " + i, y.rules(0, 2), due);
+    }
+    Due.isTrue("SEND 15", sent[15]);
+  }
+
+  private static boolean unfit(int[] traits, int[] was, int mask, int value) {
+    for (int p = 0; p < 2; p++) {
+      boolean gives = (traits[p] & mask) == value;
+      if (was[p] == 1 && !gives || was[p] == 0 && gives) return true;
+    }
+    return false;
   }
 
   private static void turn() {
@@ -173,6 +225,9 @@ public final class ThoughtTest {
     x.become(3, 65);
     Due.is("3, 3 and 4: just 10", x.cover(), 14);
     unchanged("cover", x, 0, 0, 0, 0);
+    WellRefuses y = new WellRefuses();
+    for (int p = 0; p < 8; p++) y.person(p < 6 ? 0 : 20, 1);
+    Due.is("18 of 18: 6 and 6 and two of 3", y.cover(), 195);
   }
 
   private static void kept() {
@@ -209,6 +264,12 @@ public final class ThoughtTest {
     Due.text(z, 1, "1");
     z.change(1, 1, 1);
     // 0 is lent 1 and lends it back to 1: did it not, 1 would lack it; 0 is left out.
+    WellRefuses w = new WellRefuses();
+    for (int p = 0; p < 7; p++) w.person(0, 0);
+    w.person(30, 1);
+    w.change(7, 1, 20);
+    Due.is("7 keeps all others", w.kept(7, 1), 127);
+    Due.is("0 keeps nobody", w.kept(0, 1), 0);
     Due.is("0 keeps 1", z.kept(0, 1), 2);
     Due.is("1 keeps nobody", z.kept(1, 1), 0);
   }
@@ -242,6 +303,8 @@ public final class ThoughtTest {
     Due.is("only thought", x.count(4), 19);
     Due.is("what 2", x.struck(2), Due.BEYOND);
     Due.is("what -1", x.struck(-1), Due.BEYOND);
+    x.change(1, 1, 9);
+    Due.is("no DAY goes by", x.struck(1), 9);
     Due.is("truly", x.strike(), 2);
     Due.is("OWED", x.count(4), 9);
     Due.is("no more", x.struck(0), 0);

@@ -49,6 +49,9 @@ public final class VoicesTest {
     voice(6, 1, 26, 11, 10);
     voice(6, 2, -8 ^ 3, 70, 40, 12);
     voice(6, 3, 26 - (26 ^ (-8 ^ 3)), 71, 11, 10, 13, 11, 10, 70, 40, 12);
+    WellRefuses twin = new WellRefuses();
+    for (int p = 0; p < 4; p++) twin.person(60, 0);
+    Due.is("a TWIN's lends turns bits", twin.voice(3, 2, 9), -9 ^ 3);
     WellRefuses x = new WellRefuses();
     x.person(10, 0);
     Due.is("ints go round", x.voice(0, 0, Integer.MAX_VALUE), Integer.MAX_VALUE * 3);
