@@ -510,6 +510,7 @@ public final class WellRefuses {
     private static final int NO_FAULT = -1;
     private static final int MOST_OPEN = 5;
     private static final int MOST_DIGITS = 4;
+    private static final int NO_LEVEL = -1;
     // The grammar's lines T, A, B, S, P, from the sign that binds least on; behind them stands Q.
     private static final int LEVEL_T = 0;
     private static final int LEVEL_A = 1;
@@ -608,7 +609,7 @@ public final class WellRefuses {
         case '*':
         case '/':
         case '%': return LEVEL_P;
-        default: return NOBODY;
+        default: return NO_LEVEL;
       }
     }
   }
