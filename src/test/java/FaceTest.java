@@ -1,11 +1,17 @@
+import java.io.IOException;
 import java.lang.reflect.Constructor;
 import java.lang.reflect.Field;
 import java.lang.reflect.Member;
 import java.lang.reflect.Method;
 import java.lang.reflect.Modifier;
+import java.nio.charset.StandardCharsets;
+import java.nio.file.Files;
+import java.nio.file.Paths;
 import java.util.TreeSet;
+import java.util.regex.Matcher;
+import java.util.regex.Pattern;
 
-/** The face is the document's, and nothing beside it can be seen from outside. */
+/** The face is the document's, and nothing beside it can be seen from outside; run from the checkout's root. */
 public final class FaceTest {
   private static final String[] FACE = {
     "person(int,int)", "ofPerson(int,int)", "change(int,int,int)", "owe(int,int,int)", "owes(int,int)",
@@ -17,7 +23,8 @@ public final class FaceTest {
     "check()", "count(int)", "told(int)",
   };
 
-  public static void main(String[] args) {
+  public static void main(String[] args) throws IOException {
+    documentAndSource();
     Class<?> face = WellRefuses.class;
     Due.is("modifiers", face.getModifiers(), Modifier.PUBLIC | Modifier.FINAL);
     TreeSet<String> due = new TreeSet<>();
@@ -45,6 +52,37 @@ public final class FaceTest {
     Due.is("its parameters", made[0].getParameterCount(), 0);
     for (Class<?> inside : face.getDeclaredClasses()) checkInside(inside, names);
     Due.done();
+  }
+
+  /** The document's block names just these, and the source has its parts in the document's order. */
+  private static void documentAndSource() throws IOException {
+    String document = textOf("../shared/DOC.md");
+    Matcher call = Pattern.compile("\n    public int (\\w+)\\(([^)]*)\\);").matcher(document);
+    int found = 0;
+    while (call.find()) {
+      String types = call.group(2).replaceAll(" \\w+(, )?", ",").replaceAll(",$", "");
+      String told = call.group(1) + "(" + types + ")";
+      Due.isTrue("the document's " + told, found < FACE.length && told.equals(FACE[found]));
+      found++;
+    }
+    Due.is("the document's calls", found, FACE.length);
+    String source = textOf("src/main/java/WellRefuses.java");
+    int place = 0;
+    Matcher part = Pattern.compile("Ahead of the calls ([^\n]*) the interface says: ([^\n]*)\\.\n").matcher(document);
+    while (part.find()) {
+      int next = source.indexOf("\n  // " + part.group(2) + "\n", place);
+      Due.isTrue("the source says: " + part.group(2), next >= 0);
+      place = Math.max(place, next);
+      for (String name : part.group(1).replace("`", "").split(", ")) {
+        next = source.indexOf("\n  public int " + name + "(", place);
+        Due.isTrue(name + " stands behind it, in order", next >= 0);
+        place = Math.max(place, next);
+      }
+    }
+  }
+
+  private static String textOf(String file) throws IOException {
+    return new String(Files.readAllBytes(Paths.get(file)), StandardCharsets.UTF_8);
   }
 
   private static void checkInside(Class<?> inside, TreeSet<String> names) {

@@ -135,6 +135,7 @@ public final class ImagesTest {
   }
 
   private static void count() {
+    Due.of("0 PEOPLE, 1 DAY, 2 WATER of all together, 3 THIRST of all together, 4 what is OWED in all, 5 those who are GIVEN now, as a set, 6 bytes of THE TAPE, 7 numbers that wait, 8 BODIES in THE TRACE, 9 z (any number). BEYOND.");
     WellRefuses x = new WellRefuses();
     x.person(0, 1);
     x.person(0, 2);

@@ -281,7 +281,7 @@ public final class SheetsEdgesTest {
   }
 
   private static void traits() {
-    Due.of("how many, up to the first that is not 0 to 15 (no ERROR then), or for which there is nobody. BEYOND: no such SHEET. NONE: it is missing.");
+    Due.of("Numbers of a SHEET become TRAITS of PEOPLE 0, 1, ..: how many, up to the first that is not 0 to 15 (no ERROR then), or for which there is nobody. BEYOND: no such SHEET. NONE: it is missing.");
     WellRefuses x = new WellRefuses();
     x.sheet(0, 32, 9);
     x.sheet(1, 8, 0);
@@ -319,7 +319,7 @@ public final class SheetsEdgesTest {
   }
 
   private static void judge() {
-    Due.of("the first that isn't so (one that lacks, or is too many, too); -1: all are. BEYOND: no such SHEET. NONE: it is missing.");
+    Due.of("Numbers of a SHEET are WATER of PEOPLE 0, 1, ..: the first that isn't so (one that lacks, or is too many, too); -1: all are. BEYOND: no such SHEET. NONE: it is missing.");
     WellRefuses x = new WellRefuses();
     x.sheet(0, 16, 0);
     Due.is("no numbers, no PEOPLE", x.judge(0), -1);

@@ -189,7 +189,7 @@ public final class ThoughtEdgesTest {
   }
 
   private static void send() {
-    Due.of("the difference between how many give to these, how many don't (without sign) being least; of several the least");
+    Due.of("SEND: TRAITS (0 to 15) by which those RULES would be parted most evenly: the difference between how many give to these, how many don't (without sign) being least; of several the least");
     Due.is("by all of 81 each gets 16", sent(new int[] {}).rules(0, 2), 0);
     Due.is("by no RULES", sent(new int[] {3, 3}, 1, 0).rules(0, 2), 0);
     Due.is("by one alone, which gives to 15", sent(new int[] {15, 14, 13, 11, 7}, 1, 0, 0, 0, 0).rules(0, 2), 0);
@@ -376,6 +376,7 @@ public final class ThoughtEdgesTest {
     // 1 begs 0 and drinks 1: without, 1 lacks 2, and 0 keeps its drop.
     Due.is("1 is kept", self.kept(0, 1), 2);
     Due.is("1 lends back nothing that 0 needs", self.kept(1, 1), 0);
+    keptButItself();
 
     Due.of("KEPT by one, n (0 to 60). BEYOND.");
     Due.is("n -1", x.kept(7, -1), Due.BEYOND);
@@ -388,6 +389,21 @@ public final class ThoughtEdgesTest {
     }
     Due.is("no PEOPLE", new WellRefuses().kept(0, 0), Due.BEYOND);
     Due.is("alone", Due.people(1, 0, 0).kept(0, 60), 0);
+  }
+
+  /** One who lends can be GIVEN more just by having less: did it not LEND, it would thirst itself. */
+  private static void keptButItself() {
+    WellRefuses x = new WellRefuses();
+    x.person(0, 1);
+    x.person(0, 0);
+    Due.text(x, 0, "t&w=0");
+    Due.text(x, 1, "1");
+    x.change(0, 1, 3);
+    // 0 has 3, lends 1, drinks 2: it has 0, and is GIVEN. Did it not LEND, it would have 1, and not be.
+    Due.is("as told, 0 doesn't thirst", x.then(2, 0, 1), 0);
+    Due.is("as told, 1 lacks 1 and 1", x.then(2, 1, 1), 2);
+    Due.is("1 is kept; 0, which would thirst, is left out", x.kept(0, 2), 2);
+    Due.is("behind 1 only 1 thirsts", x.kept(0, 1), 2);
   }
 
   private static void net() {
@@ -419,6 +435,7 @@ public final class ThoughtEdgesTest {
         if (p != q) x.owe(p, q, p < q ? 99 : 98);
       }
     }
+    Due.of("How many were struck; what is OWED in all then.");
     Due.is("all pairs", x.struck(0), 28);
     Due.is("1 of each is left", x.struck(1), 28);
     Due.is("only thought", x.count(4), 28 * 197);
@@ -430,7 +447,7 @@ public final class ThoughtEdgesTest {
   }
 
   private static void odds() {
-    Due.of("a fraction in lowest terms (0 is 0 by 1)");
+    Due.of("ODDS: that one is GIVEN (WATER as it is) on a DAY, the rest by 7 being 0 to 6, each just as likely: a fraction in lowest terms (0 is 0 by 1).");
     for (int many = 0; many <= 7; many++) {
       WellRefuses x = Due.people(1, 0, 1);
       Due.text(x, 0, "d<" + many);

@@ -21,6 +21,9 @@ public final class VoicesTest {
 
   /** PERSON 3, m 2, x 10: what each VOICE of each KIND gives, and the BODIES. */
   private static void voices() {
+    Due.of("n is the number, m as told: 0 lets, 1 fills, 2 lends, 3 tells.");
+    Due.of("BODIES: ONE: 10 lets: x + n. 11 fills: lets(x) * 2. 12 lends: x - m. 13 tells: fills(x) ^ lends(x). SAINT: 20 lets: super.lets(x) * 3. FARMER: 30 fills: super.fills(x) - lends(1). STRANGER: 40 lends: -super.lends(x). BRIDE: 50 tells: super.tells(x) - lets(2). BOY: 60 fills: super.fills(x + 1). TWIN: 70 lends: super.lends(x) ^ n. 71 tells: fills(x) - super.tells(x).");
+    Due.of("lets(..) is the BODY of its KIND, or of the next KIND above that has one; super.lets(..) that from the KIND above the BODY's on.");
     voice(0, 0, 13, 10);
     voice(0, 1, 26, 11, 10);
     voice(0, 2, 8, 12);
